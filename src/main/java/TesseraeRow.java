@@ -142,8 +142,8 @@ public final class TesseraeRow {
         int laid = 0;
         for (int i = 0; i < hours; i++) {
             now++;
-            for (int k = 0; k < crews.length; k++) {
-                laid += crews[k].layFor(now);
+            for (int k = 0; k < CREWS; k++) {
+                laid += needCrew(k).layFor(now);
             }
         }
         return laid;
