@@ -94,6 +94,18 @@ final class Check {
         }
     }
 
+    /** What ofCell tells of each cell of a picture: a blank between cells, a slash between rows. */
+    static String cells(TesseraeRow row, int picture, int what) {
+        StringBuilder text = new StringBuilder();
+        for (int y = 0; has(row, 'p', picture, 0, y); y++) {
+            text.append(y == 0 ? "" : " /");
+            for (int x = 0; has(row, 'p', picture, x, y); x++) {
+                text.append(x == 0 && y == 0 ? "" : " ").append(row.ofCell(picture, x, y, what));
+            }
+        }
+        return text.toString();
+    }
+
     private static boolean has(TesseraeRow row, char kind, int number, int x, int y) {
         try {
             if (kind == 'l') {

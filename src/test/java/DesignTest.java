@@ -122,7 +122,7 @@ public final class DesignTest {
         row.send(0, 0);
         row.pass(2);
         Check.due("share behind what is LAID", row.share(0, 0, 1), 1);
-        Check.same("lots behind it", lots(row, 4, 1), "0001");
+        Check.same("lots behind it", Check.cells(row, 0, 1), "0 0 0 1");
         Check.due("laid of 0", row.ofLot(0, 2), 2);
     }
 
@@ -148,23 +148,12 @@ public final class DesignTest {
         int before = row.ofCell(0, 1, 2, 3);
         Check.due("share", row.share(0, 0, 1), 3);
         // (1, 0) was of lot 1 already; (0, 1), (2, 1) and (1, 2) change.
-        Check.same("lots behind it", lots(row, 3, 3), "11010101-");
+        Check.same("lots behind it", Check.cells(row, 0, 1), "1 1 0 / 1 0 1 / 0 1 -1");
         Check.due("aims are kept", row.ofCell(0, 1, 2, 3), before);
         Check.due("left of 0", row.ofLot(0, 0), 9 - 3);
         Check.due("promised of 1", row.ofLot(1, 1), 5);
         Check.due("share back", row.share(0, 1, 0), 4);
-        Check.same("lots behind that", lots(row, 3, 3), "10000000-");
-    }
-
-    private static String lots(TesseraeRow row, int width, int height) {
-        StringBuilder text = new StringBuilder();
-        for (int y = 0; y < height; y++) {
-            for (int x = 0; x < width; x++) {
-                int lot = row.ofCell(0, x, y, 1);
-                text.append(lot < 0 ? "-" : "" + lot);
-            }
-        }
-        return text.toString();
+        Check.same("lots behind that", Check.cells(row, 0, 1), "1 0 0 / 0 0 0 / 0 0 -1");
     }
 
     private static void shareRunsOut() {
@@ -174,7 +163,7 @@ public final class DesignTest {
         row.picture(3, 3, 100);
         row.design(0);
         Check.due("share runs out", row.share(0, 0, 1), 2);
-        Check.same("lots behind it", lots(row, 3, 3), "010100000");
+        Check.same("lots behind it", Check.cells(row, 0, 1), "0 1 0 / 1 0 0 / 0 0 0");
         Check.due("share of what is out", row.share(0, 0, 1), 0);
         Check.due("left of 1", row.ofLot(1, 0), 0);
         Check.due("left of 0", row.ofLot(0, 0), 2);

@@ -142,12 +142,12 @@ public final class PicturesTest {
         Check.noSuch(row, "fill(1)", () -> row.fill(1));
         Check.noSuch(row, "fill(-1)", () -> row.fill(-1));
         Check.due("fill without any tone", row.fill(0), 0);
-        wanted(row, "77 77 / 77 77 /");
+        wanted(row, "77 77 / 77 77");
         for (int place = 0; place < 4; place++) {
             row.old(0, place % 2, place / 2, place);
         }
         Check.due("fill of nothing but OLD", row.fill(0), 0);
-        wanted(row, "0 1 / 2 3 /");
+        wanted(row, "0 1 / 2 3");
     }
 
     private static void fillInRounds() {
@@ -157,11 +157,11 @@ public final class PicturesTest {
         row.old(0, 4, 1, 31);
         Check.due("fill", row.fill(0), 8);
         // The middle column is reached in the second round, from both sides.
-        wanted(row, "10 10 20 31 31 / 10 10 20 31 31 /");
+        wanted(row, "10 10 20 31 31 / 10 10 20 31 31");
         Check.due("filled cells stay OPEN", row.ofPicture(0, TesseraeRow.OPEN), 8);
         row.cell(0, 2, 0, 99);
         Check.due("fill begins anew", row.fill(0), 8);
-        wanted(row, "10 10 20 31 31 / 10 10 20 31 31 /");
+        wanted(row, "10 10 20 31 31 / 10 10 20 31 31");
     }
 
     private static void fillCutsTheMiddle() {
@@ -187,20 +187,11 @@ public final class PicturesTest {
         row.send(0, 0);
         row.pass(1);
         Check.due("fill from one that is LAID", row.fill(0), 3);
-        wanted(row, "50 50 50 50 /");
+        wanted(row, "50 50 50 50");
         Check.due("still PROMISED", row.ofPicture(0, TesseraeRow.PROMISED), 3);
     }
 
     private static void wanted(TesseraeRow row, String due) {
-        StringBuilder text = new StringBuilder();
-        int cells = row.ofPicture(0, 0) + row.ofPicture(0, 1) + row.ofPicture(0, 2) + row.ofPicture(0, 3);
-        int rows = due.split("/").length;
-        for (int y = 0; y < rows; y++) {
-            for (int x = 0; x < cells / rows; x++) {
-                text.append(row.ofCell(0, x, y, 2)).append(' ');
-            }
-            text.append("/ ");
-        }
-        Check.same("wanted", text.toString().trim(), due);
+        Check.same("wanted", Check.cells(row, 0, 2), due);
     }
 }
