@@ -383,11 +383,14 @@ public final class TesseraeRow {
             this.width = width;
             this.height = height;
             cells = new Cell[width * height];
-            int place = 0;
-            for (int y = 0; y < height; y++) {
-                for (int x = 0; x < width; x++) {
-                    cells[place] = new Cell(x, y, tone);
-                    place++;
+            int x = 0;
+            int y = 0;
+            for (int place = 0; place < cells.length; place++) {
+                cells[place] = new Cell(x, y, tone);
+                x++;
+                if (x == width) {
+                    x = 0;
+                    y++;
                 }
             }
         }
